@@ -695,11 +695,11 @@ public final class WindowsLookedOut {
         }
 
         static long with(long squares, int square) {
-            return isSquare(square) ? squares | 1L << square : squares;
+            return square >= 0 && square < SQUARES ? squares | 1L << square : squares;
         }
 
         static long without(long squares, int square) {
-            return isSquare(square) ? squares & ~(1L << square) : squares;
+            return square >= 0 && square < SQUARES ? squares & ~(1L << square) : squares;
         }
 
         /** The square next to one on a way; NONE at the edge. */
@@ -766,13 +766,13 @@ public final class WindowsLookedOut {
         int days = 0;
         int shame = 0;
         int seed = 1;
-        private final int[] kinds = new int[MOST_PANES];
-        private final int[] as = new int[MOST_PANES];
-        private final int[] ats = new int[MOST_PANES];
-        private final int[] outs = new int[MOST_PANES];
-        private final int[] wheres = new int[MOST_WALKERS];
-        private final int[] faces = new int[MOST_WALKERS];
-        private final int[] tries = new int[MOST_WALKERS];
+        private final int[] paneKind = new int[MOST_PANES];
+        private final int[] paneA = new int[MOST_PANES];
+        private final int[] paneAt = new int[MOST_PANES];
+        private final int[] paneOut = new int[MOST_PANES];
+        private final int[] walkerAt = new int[MOST_WALKERS];
+        private final int[] walkerFaces = new int[MOST_WALKERS];
+        private final int[] walkerTried = new int[MOST_WALKERS];
 
         void become(Town other) {
             houses = other.houses;
@@ -783,15 +783,15 @@ public final class WindowsLookedOut {
             shame = other.shame;
             seed = other.seed;
             for (int i = 0; i < MOST_PANES; i++) {
-                kinds[i] = other.kinds[i];
-                as[i] = other.as[i];
-                ats[i] = other.ats[i];
-                outs[i] = other.outs[i];
+                paneKind[i] = other.paneKind[i];
+                paneA[i] = other.paneA[i];
+                paneAt[i] = other.paneAt[i];
+                paneOut[i] = other.paneOut[i];
             }
             for (int i = 0; i < MOST_WALKERS; i++) {
-                wheres[i] = other.wheres[i];
-                faces[i] = other.faces[i];
-                tries[i] = other.tries[i];
+                walkerAt[i] = other.walkerAt[i];
+                walkerFaces[i] = other.walkerFaces[i];
+                walkerTried[i] = other.walkerTried[i];
             }
         }
 
@@ -812,8 +812,8 @@ public final class WindowsLookedOut {
         }
 
         boolean isPaneAt(int square) {
-            for (int pane = 0; pane < panes; pane++) {
-                if (ats[pane] == square) {
+            for (int pane = 0; pane < panes && pane < MOST_PANES; pane++) {
+                if (paneAt[pane] == square) {
                     return true;
                 }
             }
@@ -829,28 +829,28 @@ public final class WindowsLookedOut {
             if (pane < 0 || pane >= MOST_PANES) {
                 return NONE;
             }
-            kinds[pane] = kind;
-            as[pane] = a;
-            ats[pane] = at;
-            outs[pane] = out;
+            paneKind[pane] = kind;
+            paneA[pane] = a;
+            paneAt[pane] = at;
+            paneOut[pane] = out;
             panes++;
             return pane;
         }
 
         int kindOf(int pane) {
-            return isPane(pane) ? kinds[pane] : NONE;
+            return isPane(pane) ? paneKind[pane] : NONE;
         }
 
         int aOf(int pane) {
-            return isPane(pane) ? as[pane] : 0;
+            return isPane(pane) ? paneA[pane] : 0;
         }
 
         int atOf(int pane) {
-            return isPane(pane) ? ats[pane] : NONE;
+            return isPane(pane) ? paneAt[pane] : NONE;
         }
 
         int outOf(int pane) {
-            return isPane(pane) ? outs[pane] : NONE;
+            return isPane(pane) ? paneOut[pane] : NONE;
         }
 
         /** The panes there are, as bits. */
@@ -863,8 +863,8 @@ public final class WindowsLookedOut {
         }
 
         boolean isSomebodyAt(int square) {
-            for (int walker = 0; walker < walkers; walker++) {
-                if (wheres[walker] == square) {
+            for (int walker = 0; walker < walkers && walker < MOST_WALKERS; walker++) {
+                if (walkerAt[walker] == square) {
                     return true;
                 }
             }
@@ -880,46 +880,46 @@ public final class WindowsLookedOut {
             if (walker < 0 || walker >= MOST_WALKERS) {
                 return NONE;
             }
-            wheres[walker] = at;
-            faces[walker] = way;
-            tries[walker] = 0;
+            walkerAt[walker] = at;
+            walkerFaces[walker] = way;
+            walkerTried[walker] = 0;
             walkers++;
             return walker;
         }
 
         int whereIs(int walker) {
-            return isWalker(walker) ? wheres[walker] : NONE;
+            return isWalker(walker) ? walkerAt[walker] : NONE;
         }
 
         int facedBy(int walker) {
-            return isWalker(walker) ? faces[walker] : NONE;
+            return isWalker(walker) ? walkerFaces[walker] : NONE;
         }
 
         int triedOf(int walker) {
-            return isWalker(walker) ? tries[walker] : 0;
+            return isWalker(walker) ? walkerTried[walker] : 0;
         }
 
         int triedTogether() {
             int together = 0;
-            for (int walker = 0; walker < walkers; walker++) {
-                together += tries[walker];
+            for (int walker = 0; walker < walkers && walker < MOST_WALKERS; walker++) {
+                together += walkerTried[walker];
             }
             return together;
         }
 
         void place(int walker, int square, int way) {
             if (isWalker(walker)) {
-                wheres[walker] = square;
-                faces[walker] = way;
+                walkerAt[walker] = square;
+                walkerFaces[walker] = way;
             }
         }
 
         long sightOf(int pane) {
-            return sightOf(pane, houses);
+            return sightAmong(houses, pane);
         }
 
-        /** What a pane sees if the houses were these. */
-        long sightOf(int pane, long built) {
+        /** What a pane would see if the houses were these. */
+        long sightAmong(long built, int pane) {
             int at = atOf(pane);
             int out = outOf(pane);
             switch (kindOf(pane)) {
@@ -938,8 +938,8 @@ public final class WindowsLookedOut {
 
         int walkersIn(long squares) {
             int in = 0;
-            for (int walker = 0; walker < walkers; walker++) {
-                if (Grid.has(squares, wheres[walker])) {
+            for (int walker = 0; walker < walkers && walker < MOST_WALKERS; walker++) {
+                if (Grid.has(squares, walkerAt[walker])) {
                     in |= 1 << walker;
                 }
             }
@@ -968,8 +968,8 @@ public final class WindowsLookedOut {
 
         private int openTo(int house, int out, int off) {
             int open = 0;
-            for (int pane = 0; pane < panes; pane++) {
-                if (ats[pane] == house && outs[pane] == out && letsIn(kinds[pane], as[pane], off)) {
+            for (int pane = 0; pane < panes && pane < MOST_PANES; pane++) {
+                if (paneAt[pane] == house && paneOut[pane] == out && letsIn(paneKind[pane], paneA[pane], off)) {
                     open |= 1 << pane;
                 }
             }
@@ -993,18 +993,18 @@ public final class WindowsLookedOut {
         void bear(int walker, int more) {
             shame += more;
             if (more > 0 && isWalker(walker)) {
-                tries[walker]++;
+                walkerTried[walker]++;
             }
         }
 
         void liveOneDay() {
             days++;
-            for (int walker = 0; walker < walkers; walker++) {
+            for (int walker = 0; walker < walkers && walker < MOST_WALKERS; walker++) {
                 int way = draw(WAYS);
-                int next = Grid.beside(wheres[walker], way);
-                place(walker, isYard(next) ? next : wheres[walker], way);
+                int next = Grid.beside(walkerAt[walker], way);
+                place(walker, isYard(next) ? next : walkerAt[walker], way);
             }
-            for (int walker = 0; walker < walkers; walker++) {
+            for (int walker = 0; walker < walkers && walker < MOST_WALKERS; walker++) {
                 bear(walker, Integer.bitCount(lookedInBy(walker)));
             }
         }
@@ -1111,7 +1111,7 @@ public final class WindowsLookedOut {
         void take(Town town, long houses) {
             panes = Math.min(town.panes, MOST_PANES);
             for (int pane = 0; pane < MOST_PANES; pane++) {
-                sees[pane] = town.sightOf(pane, houses);
+                sees[pane] = town.sightAmong(houses, pane);
             }
         }
 
