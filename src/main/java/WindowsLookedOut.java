@@ -1511,7 +1511,8 @@ public final class WindowsLookedOut {
                 case 11:
                     return run(acting, acting.kind, OPENS, x, deeper) * 2;
                 case 12:
-                    return run(acting, acting.kind, SHUTS, x, deeper) ^ run(acting, acting.kind, OPENS, x - acting.a, deeper);
+                    return run(acting, acting.kind, SHUTS, x, deeper)
+                            ^ run(acting, acting.kind, OPENS, x - acting.a, deeper);
                 case 20:
                     return run(acting, above(MIRROR), OPENS, x, deeper) + acting.a;
                 case 30:

@@ -79,6 +79,13 @@ public final class ImageTest {
         DUE.is("trace(1)", x.trace(1), 20);
         DUE.refused(x, 0, 0, 0, 0, 0, 1, 0);
         x.pane(3, 0, 24, 3);
+        x.show(0, 1);
+        x.show(7, 1);
+        x.restore();
+        DUE.is("holds(0)", x.holds(0), -1);
+        DUE.is("holds(7)", x.holds(7), -1);
+        x.show(0, 0);
+        x.pane(3, 0, 24, 3);
         DUE.is("the shelf stays empty: holds(1)", x.holds(1), -1);
         DUE.is("says(0, 0)", x.says(0, 0), 24);
     }

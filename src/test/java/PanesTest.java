@@ -38,6 +38,11 @@ public final class PanesTest {
         x.row(1, 3, 1);
         x.set(1, 0, 22 + (1L << 32));
         DUE.is("of longs the lowest 32 bits: cover(1)", x.cover(1), 1);
+        x = Due.townOf("house 21;house 27;house 0;pane 0 0 21 2;pane 0 0 27 1;pane 0 0 21 2;reach 3");
+        cover(x, 3, 22, 26);
+        x.pane(5, 5, 21, 2);
+        cover(x, 8, 22, 26);
+        cover(x, 1, 22, 24);
         cover(new WindowsLookedOut(), 0);
         cover(new WindowsLookedOut(), -1, 22);
     }
@@ -140,6 +145,7 @@ public final class PanesTest {
         DUE.is("fresh(-1)", x.fresh(-1), -16);
         DUE.refused(x, 0, 0, 0, 0, 0, 3, 0);
         DUE.is("nothing is changed: status(0)", x.status(0), 0);
+        DUE.is("from 0: fresh(3)", Due.townOf("house 0;house 6").fresh(3), 2);
         DUE.is("no houses: fresh(0)", new WindowsLookedOut().fresh(0), -1);
     }
 

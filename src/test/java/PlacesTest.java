@@ -44,7 +44,7 @@ public final class PlacesTest {
                 x.pane(0, one[0], one[1], one[2]), -6);
         }
         for (int i = 0; i < 9; i++) {
-            DUE.is("pane " + i, x.pane(i % 7, i, 24, i % 4), i);
+            DUE.is("pane " + i, x.pane(i % 7, i + 1, 24, i % 4), i);
         }
         DUE.is("a tenth pane", x.pane(0, 0, 24, 0), -7);
         DUE.is("a tenth pane that may not be", x.pane(0, 10, 24, 0), -6);

@@ -31,9 +31,12 @@ public final class RulesTest {
     /** Words that the rules leave out, but for those that only the compiled class could show. */
     private static final String[] NO_WORDS = {
         "throw", "throws", "try", "catch", "finally", "synchronized", "assert", "package", "protected",
-        "volatile", "transient", "native", "strictfp", "yield", "hashCode", "toString", "Object", "System\\.(?!arraycopy)\\w+",
+        "volatile", "transient", "native", "strictfp", "yield", "hashCode", "toString", "Object",
+        "System\\.(?!arraycopy)\\w+",
         "\\w+Exact", "Thread", "Random", "Scanner", "File", "Map", "Set", "Stream",
     };
+    private static final Pattern METHOD =
+        Pattern.compile("^( {4}| {8})(?!.*\\b(class|return|for|if|while|switch|else)\\b)\\w[^=;]*\\) \\{$");
     private static int wrong = 0;
 
     public static void main(String[] args) throws IOException {
@@ -60,7 +63,8 @@ public final class RulesTest {
 
     private static Set<String> face() {
         Class<?> c = WindowsLookedOut.class;
-        must(Modifier.isPublic(c.getModifiers()) && Modifier.isFinal(c.getModifiers()), "1: the class is public, final");
+        int kind = c.getModifiers();
+        must(Modifier.isPublic(kind) && Modifier.isFinal(kind), "1: the class is public, final");
         Set<String> due = new TreeSet<>(Arrays.asList(FACE));
         Set<String> are = new TreeSet<>();
         Set<String> names = new TreeSet<>();
@@ -129,8 +133,7 @@ public final class RulesTest {
     private static void methods(String code) {
         String[] lines = code.split("\n");
         for (int i = 0; i < lines.length; i++) {
-            Matcher m = Pattern.compile("^( {4}| {8})(?!.*\\b(class|return|for|if|while|switch|else)\\b)\\w[^=;]*\\) \\{$")
-                .matcher(lines[i]);
+            Matcher m = METHOD.matcher(lines[i]);
             if (m.find()) {
                 int end = i;
                 while (!lines[end].equals(m.group(1) + "}")) {

@@ -49,7 +49,9 @@ public final class ShelvesTest {
         DUE.is("holds(0) after refusals", x.holds(0), 100);
         DUE.is("element(0, 4) after refusals", x.element(0, 4), 9);
         DUE.refused(x, 2, 0, 0, 1, 0, 2, 2);
+        x.set(0, 0, 9);
         DUE.is("row(0, 3, 160)", x.row(0, 3, 160), 1);
+        DUE.is("element(0, 0) of the new row", x.element(0, 0), 0);
         DUE.is("element(0, 4) of the new row", x.element(0, 4), 0);
         DUE.is("set(0, 159, 1)", x.set(0, 159, 1), 1);
         DUE.is("set(0, 160, 1)", x.set(0, 160, 1), -5);

@@ -100,7 +100,8 @@ public final class SightTest {
     }
 
     private static void looksByReach() {
-        WindowsLookedOut x = Due.townOf("house 21;pane 0 0 21 2;pane 2 9 21 2;pane 2 0 21 2;pane 0 0 21 1;pane 5 9 21 2");
+        WindowsLookedOut x = Due.townOf("house 21;pane 0 0 21 2;pane 2 9 21 2;pane 2 0 21 2;pane 0 0 21 1;"
+            + "pane 5 9 21 2");
         int[] due = {23, 19, 19, 19, 0, 0};
         for (int off = 1; off <= 6; off++) {
             DUE.is("looks(" + (21 + off) + ", 1)", x.looks(21 + off, 1), due[off - 1]);

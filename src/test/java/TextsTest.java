@@ -111,7 +111,8 @@ public final class TextsTest {
     }
 
     private static void allOrNothing() {
-        WindowsLookedOut x = read("house 8;reach 2", "house 9;pane 0 0 9 2;walker 20 1;reach 5;yard 8;house 5x", -6, 55);
+        String text = "house 9;pane 0 0 9 2;walker 20 1;reach 5;yard 8;house 5x";
+        WindowsLookedOut x = read("house 8;reach 2", text, -6, 55);
         DUE.is("nothing of it: status(0)", x.status(0), 0);
         DUE.is("nothing of it: status(1)", x.status(1), 0);
         DUE.is("nothing of it: status(2)", x.status(2), 1);

@@ -74,6 +74,10 @@ public final class WalksTest {
         DUE.is("status(5)", x.status(5), 9);
         DUE.is("status(6)", x.status(6), 2);
         DUE.is("status(4)", x.status(4), 0);
+        x.put(0, 0, 0);
+        Due.ints(x, 0, 2);
+        DUE.is("one shame: done(0, 0, 1)", x.done(0, 0, 1), 10);
+        DUE.is("one shame: walkerOf(0, 2)", x.walkerOf(0, 2), 3);
     }
 
     private static void longWalks() {

@@ -111,6 +111,8 @@ public final class WaysTest {
         Due.letters(x, 0, "house 17;house 23;house 25");
         x.town(0);
         meet(x, -1, -1);
+        meet(Due.townOf("walker 0 0;walker 1 0"), 1, 0);
+        meet(Due.townOf("house 27;pane 0 0 27 1;pane 0 0 27 1;walker 24 0;walker 26 1"), 2, 24);
         DUE.is("status(16)", x.status(16), 0);
     }
 
