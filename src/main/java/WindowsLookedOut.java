@@ -150,7 +150,7 @@ public final class WindowsLookedOut {
         if (!Grid.isSquare(square)) {
             return refuse(WRONG);
         }
-        if (is ? now.isSomebodyAt(square) : now.isPaneAt(square)) {
+        if (now.isSomebodyAt(square) || !is && now.isPaneAt(square)) {
             return refuse(WRONG);
         }
         int was = now.isHouse(square) ? 1 : 0;

@@ -517,7 +517,7 @@ final class Model {
 
     long house(int s, boolean is) {
         no(!isSquare(s), -6);
-        no(is && somebody(s), -6);
+        no(somebody(s), -6);
         no(!is && paneAt(s), -6);
         boolean was = house[s];
         house[s] = is;

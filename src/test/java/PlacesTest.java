@@ -28,9 +28,14 @@ public final class PlacesTest {
         DUE.is("house(0, false): a pane is at it", x.house(0, false), -6);
         DUE.is("house(0, true): a pane is at it", x.house(0, true), 1);
         DUE.is("house(8, true): a walker is at it", x.house(8, true), -6);
-        DUE.is("house(8, false): a walker is at it", x.house(8, false), 0);
+        DUE.is("house(8, false): a walker is at it", x.house(8, false), -6);
         DUE.is("status(2)", x.status(2), 1);
-        DUE.refused(x, 0, 0, 0, 0, 0, 4, 0);
+        DUE.is("walkerOf(0, 0)", x.walkerOf(0, 0), 8);
+        DUE.refused(x, 0, 0, 0, 0, 0, 5, 0);
+        x.put(0, 9, 0);
+        DUE.is("house(8, false): he has gone", x.house(8, false), 0);
+        DUE.is("house(9, false): he is here now", x.house(9, false), -6);
+        DUE.is("house(8, true): nobody is at it", x.house(8, true), 0);
     }
 
     private static void pane() {
