@@ -111,11 +111,12 @@ final class Edges {
         asked(edge, ORDINARY.then(doing), call, want);
     }
 
-    /** The call only asks: nothing changes, and no refusal is counted. */
+    /** The call only asks: nothing changes, no refusal is counted, and asked again it answers the same. */
     void asked(String edge, Made made, Call call, long want) {
         WindowsLookedOut x = made.town();
         long[] due = told(x);
         is(edge, call.of(x), want);
+        is(edge + ", asked again", call.of(x), want);
         same(edge, told(x), due);
     }
 

@@ -26,6 +26,11 @@ public final class EdgesOfPlacesTest {
         e.does("0 (not): it had none", x -> x.house(0, false), 0);
         e.asked("0: it has one", x -> x.house(0, true), x -> x.seen(0, 1), 1);
         e.asked("48 (not): it has none", x -> x.house(48, false), x -> x.seen(48, 1), 0);
+        e.does("0 (not): it had one", x -> x.house(0, true), x -> x.house(0, false), 1);
+        e.asked("0 (not): it has none", x -> {
+            x.house(0, true);
+            x.house(0, false);
+        }, x -> x.seen(0, 1), 0);
         e.asked("a second time: one as before", x -> x.house(48, true), x -> x.status(2), 3);
         e.refused("somebody is there", x -> x.house(24, true), -6);
         e.refused("somebody is there (not)", x -> x.house(24, false), -6);
@@ -186,6 +191,11 @@ public final class EdgesOfPlacesTest {
             x.walker(22, 1);
             x.walker(23, 2);
         }, x -> x.paneOf(0, 5), 31);
+        e.asked("it SEES 0, but there are no WALKERS", Edges.town("house 3;pane 0 0 3 1"), x -> x.paneOf(0, 5), 0);
+        e.asked("it SEES 0, but the one WALKER is not there", Edges.town("house 3;pane 0 0 3 1;walker 9 0"),
+            x -> x.paneOf(0, 5), 0);
+        e.asked("it SEES 0, and the one WALKER is there", Edges.town("house 3;pane 0 0 3 1;walker 0 0"),
+            x -> x.paneOf(0, 5), 1);
         e.asked("the fifth WALKER alone", x -> {
             walkers(x, 4);
             x.walker(25, 0);

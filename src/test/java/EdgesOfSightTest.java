@@ -332,6 +332,7 @@ public final class EdgesOfSightTest {
         });
         way(e, "winding through the town: 30 STEPS", winding, 42, 0, 30, 2);
         way(e, "to the next only", winding, 1, 0, 1, 2);
+        way(e, "to the next, asked behind the farthest", winding.then(x -> x.way(0, 42, 0)), 1, 0, 1, 2);
         Edges.Made parted = winding.then(x -> x.house(20, true));
         way(e, "the town is parted in two", parted, 42, NONE, NONE, NONE);
         way(e, "the near part of it", parted, 13, 0, 7, 2);

@@ -126,6 +126,8 @@ public final class EdgesOfWalksTest {
         e.asked("a HOUSE", walk("house 25;walker 24 0", 2), x -> x.judge(0, 0, 1), 0);
         e.asked("a HOUSE at the second STEP", walk("house 26;walker 24 0", 2, 2), x -> x.judge(0, 0, 2), 1);
         e.asked("where another is may be gone", walk("walker 24 0;walker 25 0", 2), x -> x.judge(0, 0, 1), NONE);
+        e.asked("behind one that was WRONG", walk("walker 0 0", 2, 0).then(x -> x.judge(0, 0, 2)),
+            x -> x.judge(0, 0, 1), NONE);
         e.asked("of two WRONG the first", walk("walker 0 0", 2, 0, 9), x -> x.judge(0, 0, 3), 1);
     }
 
@@ -160,6 +162,11 @@ public final class EdgesOfWalksTest {
                 e.asked("n " + n + ", what " + what, made, x -> x.behind(0, 0, many, one), due[n][what]);
             }
         }
+        for (int what = 0; what < 3; what++) {
+            int one = what;
+            e.asked("n 0, asked behind n 7, what " + what, made.then(x -> x.behind(0, 0, 7, one)),
+                x -> x.behind(0, 0, 0, one), 0);
+        }
         Edges.Made before = walk(LANE, 1).then(x -> x.put(0, 5, 2));
         e.asked("where he starts he LOOKS IN", before, y -> y.walkerOf(0, 3), 2);
         e.asked("n 0: that is not counted", before, y -> y.behind(0, 0, 0, 0), 0);
@@ -193,6 +200,8 @@ public final class EdgesOfWalksTest {
         Edges.Made late = walk(LANE, 2, 2, 2, 2, 2, 2);
         e.refused("the sixth is a HOUSE: nothing of it is done", late, x -> x.done(0, 0, 6), -6);
         e.does("the first five can be", late, x -> x.done(0, 0, 5), 3);
+        e.does("the first five can be, behind six that were WRONG", late.then(x -> x.done(0, 0, 6)),
+            x -> x.done(0, 0, 5), 3);
     }
 
     private static void done() {
