@@ -10,7 +10,7 @@ public final class WindowsLookedOut {
     private static final int WRONG = -6;
     private static final int ROOM = -7;
     private static final int FINE = 0;
-    /** Calls that may answer NONE tell their refusals this much lower, so that none looks like an answer. */
+    /** Most calls that only ask tell their refusals this much lower, so that none looks like an answer NONE. */
     private static final int APART = 10;
 
     private static final int SIDE = 7;
